@@ -1544,12 +1544,12 @@ public final class HireYard {
             for (int turns = 0; turns < MOST_BYTES && from < length; turns++) {
                 int to = from + 1;
                 if (isLetter(from)) {
-                    while (isLetter(to)) {
+                    while (to < length && isLetter(to)) {
                         to++;
                     }
                     addToken(wordSort(from, to), 0, from);
                 } else if (isDigit(from)) {
-                    while (isDigit(to)) {
+                    while (to < length && isDigit(to)) {
                         to++;
                     }
                     addToken(to - from > MOST_DIGITS ? WRONG : NUMBER, numberOf(from, to), from);

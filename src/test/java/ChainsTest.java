@@ -47,6 +47,8 @@ public final class ChainsTest {
         CHECK.row("46: ranks", new long[] {y.rank(0, 0), y.rank(0, 1), y.rank(0, 2), y.rank(0, 3)}, 6, 7, 8, 9);
         CHECK.is("45: link 4", y.chain(0, 4, 0), Scene.BAD);
         CHECK.is("45: link -1", y.chain(0, -1, 0), Scene.BAD);
+        CHECK.is("45: link 4 would lose", y.chain(0, 4, 1), Scene.BAD);
+        CHECK.is("45: link -1 would lose", y.chain(0, -1, 1), Scene.BAD);
         CHECK.is("45: what 2", y.chain(0, 0, 2), Scene.BAD);
         CHECK.is("45: no machine", y.chain(1, 0, 0), Scene.BAD);
         CHECK.is("46: link 4", y.rank(0, 4), Scene.BAD);
@@ -151,6 +153,11 @@ public final class ChainsTest {
         CHECK.is("48: as many wanted as idle", y.move(0), Scene.NOT);
         y.machine(0, 1, 0);
         CHECK.is("48: from 1 to 0", y.move(0), 100);
+        y.machine(0, 0, 0);
+        y.machine(0, 0, 0);
+        y.order(1, 0, 0, 1, 1);
+        y.order(1, 0, 0, 1, 1);
+        CHECK.is("48: from 0 to 1", y.move(0), 1);
     }
 
     private static void count() {
@@ -184,6 +191,8 @@ public final class ChainsTest {
             got[what] = y.count(what);
         }
         CHECK.row("49: what", got, 3, 2, 4, 1, 6, 1, 1, 1, 1, 1, 1, 2, 1, 2);
+        y.fetch(0, 0);
+        CHECK.is("49: order 0 done too", y.count(13), 3);
         CHECK.is("49: what 14", y.count(14), Scene.BAD);
         CHECK.is("49: what -1", y.count(-1), Scene.BAD);
     }

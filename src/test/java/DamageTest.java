@@ -123,17 +123,26 @@ public final class DamageTest {
             y.mark(1, mark, mark + 1);
         }
         CHECK.is("43: nothing told", y.harm(0, 0), 0);
-        y.looked(0, 0, 0x8005);
+        y.looked(0, 0, 0x8004);
         y.fuel(0, 0, 100);
         y.send(0);
         y.fetch(0, 0);
         CHECK.is("43: one look alone", y.harm(0, 0), 0);
         CHECK.is("43: one look alone", y.harm(0, 1), 0);
         CHECK.is("43: fuel out alone", y.harm(0, 2), 0);
-        y.looked(0, 1, 0xC00E);
+        y.looked(0, 1, 0xC00F);
         y.fuel(0, 1, 31);
-        CHECK.is("43: new marks", y.harm(0, 0), 0x400A);
-        CHECK.is("43: by the machine's own type", y.harm(0, 1), 15 + 4 + 2);
+        CHECK.is("43: new marks", y.harm(0, 0), 0x400B);
+        CHECK.is("43: by the machine's own type", y.harm(0, 1), 15 + 4 + 2 + 1);
         CHECK.is("43: litres", y.harm(0, 2), 69);
+        y.order(0, 0, 0, 1, 1);
+        s.promise(1);
+        y.send(1);
+        y.fetch(1, 0);
+        y.looked(1, 1, 7);
+        y.fuel(1, 1, 7);
+        CHECK.is("43: in alone", y.harm(1, 0), 0);
+        CHECK.is("43: in alone", y.harm(1, 1), 0);
+        CHECK.is("43: in alone", y.harm(1, 2), 0);
     }
 }

@@ -89,6 +89,10 @@ public final class DaysTest {
         expectDays("no reading behind", late, 2, 0, 2, 2);
         late.yard.read(0, 0);
         expectDays("a reading behind the end tells of both", late, 2, 0, 0, 0);
+        Scene none = Scene.hire();
+        none.yard.fetch(0, 0);
+        none.pass(100);
+        expectDays("ended in hour 0", none, 0, 0, 0, 0);
     }
 
     private static void daysOfLongHire() {

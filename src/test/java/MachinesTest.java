@@ -18,6 +18,7 @@ public final class MachinesTest {
         readFull();
         track();
         theft();
+        theftSeenFirst();
         theftOfLoads();
         CHECK.done();
     }
@@ -39,6 +40,16 @@ public final class MachinesTest {
         CHECK.is("7: sixteenth", y.type(20100, 5, 17, 3), Scene.FULL);
         CHECK.is("7: BAD ahead of FULL", y.type(0, 5, 17, 3), Scene.BAD);
         CHECK.is("7: how many", y.count(1), 15);
+        Scene s = Scene.plain();
+        CHECK.is("7: fuel and paper", s.yard.type(1000, 1, 58, 0), Scene.BAD);
+        CHECK.is("7: fuel and paper", s.yard.type(1000, 1, 52, 0), 1);
+        s.yard.machine(1, 0, 0);
+        s.yard.customer(0, 4);
+        s.yard.customer(0, 251);
+        s.yard.order(1, 1, 0, 1, 1);
+        s.yard.order(2, 1, 0, 1, 1);
+        CHECK.is("7: paper 2", s.yard.why(0, 0), 0);
+        CHECK.is("7: all papers but 2", s.yard.why(0, 1), 3);
     }
 
     private static void instead() {
@@ -102,7 +113,7 @@ public final class MachinesTest {
         CHECK.is("11: rate 0", y.link(0, 0, 0), Scene.BAD);
         CHECK.is("11: rate 10000", y.link(0, 0, 10000), Scene.BAD);
         for (int i = 1; i <= 5; i++) {
-            CHECK.is("11: link " + i, y.link(0, 9, 9999), i);
+            CHECK.is("11: link " + i, y.link(0, i % 2 == 0 ? 0 : 9, i == 2 ? 1 : 9999), i);
         }
         CHECK.is("11: FULL", y.link(0, 9, 9999), Scene.FULL);
         CHECK.is("11: BAD ahead of FULL", y.link(0, 10, 1), Scene.BAD);
@@ -270,6 +281,7 @@ public final class MachinesTest {
         y.send(2);
         CHECK.is("15: on a load", y.gone(2, 4), 1);
         CHECK.row("15: its order waits", s.ofOrder(2), 0, 0, 4, 9, 1, 0, -1, -1, -1, 0);
+        CHECK.is("15: no order for it", y.ofMachine(2, 7), -1);
         CHECK.is("15: it may be listed again", y.list(2), 1);
         s.pass(2);
         CHECK.is("15: hire not begun", y.gone(1, 4), 1);
@@ -378,6 +390,32 @@ public final class MachinesTest {
         expectTheft("nor that", s, 1, 5, 7, 1);
     }
 
+    private static void theftSeenFirst() {
+        Scene s = Scene.row(2, 60);
+        HireYard y = s.yard;
+        y.type(10000, 100, 0, 0);
+        y.machine(0, 0, 0);
+        s.pass(3);
+        y.track(0, 0);
+        s.pass(4);
+        y.gone(0, 4);
+        expectTheft("the first track of all there", s, 0, 3, 7, 0);
+        y.machine(0, 1, 0);
+        y.track(1, 0);
+        s.pass(4);
+        y.track(1, 1);
+        y.gone(1, 4);
+        expectTheft("elsewhere in the hour since when", s, 1, 7, 7, 1);
+        HireYard first = Scene.row(2, 60).yard;
+        first.type(10000, 100, 0, 0);
+        first.machine(0, 1, 0);
+        first.hours(2);
+        first.track(0, 0);
+        first.hours(2);
+        first.gone(0, 4);
+        CHECK.is("18: the first track of all elsewhere", first.theft(0, 1), 2);
+    }
+
     private static void theftOfLoads() {
         Scene s = Scene.row(3, 60);
         HireYard y = s.yard;
@@ -387,6 +425,7 @@ public final class MachinesTest {
             y.machine(0, 0, 0);
             y.order(0, 0, 10, 1, 1);
         }
+        y.track(2, 2);
         y.track(0, 2);
         y.track(1, 1);
         y.track(2, 1);
@@ -404,9 +443,11 @@ public final class MachinesTest {
         s.pass(2);
         y.track(0, 2);
         y.track(2, 2);
+        y.track(0, 1);
+        s.pass(1);
         y.gone(0, 4);
         expectTheft("at the customer's since 5", s, 0, 5, 5, 2);
-        s.pass(5);
+        s.pass(4);
         y.fetch(2, 1);
         s.pass(1);
         y.track(2, 1);

@@ -109,6 +109,18 @@ public final class OrdersTest {
         CHECK.is("21: never a look", y.why(0, 0), 0);
         y.off(0);
         CHECK.is("21: of one that is gone", y.why(0, 0), 0);
+        y.type(10001, 100, 0, 0);
+        y.type(10030, 100, 0, 0);
+        y.machine(1, 0, 0);
+        y.machine(1, 0, 1);
+        y.machine(2, 0, 0);
+        y.order(0, 1, 0, 1, 1);
+        y.order(0, 2, 0, 6, 6);
+        y.order(0, 2, 0, 5, 6);
+        CHECK.is("21: a look every hour of work", y.why(1, 1), 0);
+        CHECK.is("21: it is due", y.why(2, 1), 4);
+        CHECK.is("21: days times hours", y.why(3, 2), 4);
+        CHECK.is("21: days times hours", y.why(3, 3), 0);
     }
 
     private static void list() {
@@ -268,6 +280,11 @@ public final class OrdersTest {
         y.off(2);
         CHECK.is("25: all fell out", y.round(), Scene.NOT);
         CHECK.is("27: the latest that found one", y.stopped(0), 1);
+        y.stop(0);
+        y.stop(4);
+        y.off(0);
+        CHECK.is("25: the first fell out", y.round(), 20);
+        CHECK.is("27: the other one", y.stopped(0), 4);
     }
 
     private static void roundRefused() {

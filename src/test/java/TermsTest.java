@@ -9,9 +9,12 @@ public final class TermsTest {
         terms();
         texts();
         faults();
+        fullTape();
         gives();
         names();
         namesOfTroubles();
+        rainOnTheFirstDay();
+        brokenSpans();
         bill();
         inForce();
         next();
@@ -144,6 +147,7 @@ public final class TermsTest {
         }
         expect("day", 0, -100);
         expect("dayss", 0, -100);
+        expect("daysz", 0, -100);
         expect("1 2", 0, -102);
         expect("1 days", 0, -102);
         expect("days 1", 0, -105);
@@ -185,6 +189,23 @@ public final class TermsTest {
         expect("((((((((least", 0, -113);
         expect("((((((((least)", 0, -113);
         expect("((((((((1 (", 0, -110);
+    }
+
+    /** Texts that fill the tape. */
+    private static void fullTape() {
+        String row = "1+".repeat(100);
+        expect(row, 0, -300);
+        expect(row.substring(0, 199), 0, 100);
+        expect(row.substring(0, 198) + "1 ", 0, 100);
+        expect(row.substring(0, 198) + "1)", 0, -299);
+        expect(" ".repeat(200), 0, -300);
+        expect("1;".repeat(99) + "1 ", 0, 1);
+        expect("from9up1;".repeat(22) + "7", 8, 7);
+        expect("from9up1;".repeat(21) + "days*(3-1)", 8, 16);
+        expect("9".repeat(200), 0, -100);
+        expect("least(days,".repeat(8) + "5" + ")".repeat(8), 9, 5);
+        expect("least(days+2*".repeat(8) + "5,99999999999", 0, -206);
+        expect("1+1*most(2,".repeat(8) + "1+1*9" + ")".repeat(8), 0, 18);
     }
 
     private static void gives() {
@@ -291,6 +312,35 @@ public final class TermsTest {
         CHECK.is("38: rain as told now", y.gives(0, 0, 0), 1);
     }
 
+    private static void rainOnTheFirstDay() {
+        Scene s = Scene.hire();
+        s.terms(0, 0, "rain");
+        s.yard.rain(0, 1);
+        CHECK.is("38: a hire of no hours", s.yard.gives(0, 0, 0), 0);
+        s.pass(1);
+        CHECK.is("38: rain on day 0", s.yard.gives(0, 0, 0), 1);
+    }
+
+    private static void brokenSpans() {
+        Scene s = Scene.hire();
+        HireYard y = s.yard;
+        s.terms(0, 0, "broken");
+        y.machine(0, 0, 0);
+        y.broken(1, 1);
+        y.broken(0, 1);
+        y.broken(0, 0);
+        s.pass(10);
+        CHECK.is("38: a span of no hours", y.gives(0, 0, 0), 0);
+        y.broken(0, 1);
+        s.pass(5);
+        y.broken(1, 0);
+        s.pass(1);
+        CHECK.is("38: the end of another's span", y.gives(0, 0, 0), 6);
+        y.broken(0, 0);
+        s.pass(1);
+        CHECK.is("38: all spans", y.gives(0, 0, 0), 6);
+    }
+
     private static void bill() {
         Scene s = Scene.hire();
         HireYard y = s.yard;
@@ -379,6 +429,8 @@ public final class TermsTest {
         CHECK.is("40: not for 4", y.next(0, 4), Scene.NOT);
         CHECK.is("40: two weeks", y.next(0, 13), 14);
         CHECK.is("40: no week from a week", y.next(0, 7), Scene.NOT);
+        s.terms(0, 1, "100-days");
+        CHECK.is("40: terms for later hires", y.next(0, 4), Scene.NOT);
         s.pass(24);
         s.terms(0, 0, "from 60 to 65 9;from 66 up 3;100-all/66");
         s.terms(0, 0, "from 60 to 65 9;from 66 up 3;100-all/66");
