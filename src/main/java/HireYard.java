@@ -1223,7 +1223,7 @@ public final class HireYard {
     /** THE LIST and BEST. */
     private static final class Match {
         private static final int MOST_LISTED = 6, NO_MACHINE = 90;
-        private static final long NEVER = Long.MAX_VALUE / 2;
+        private static final long NEVER = 4000000000000000000L;
         /*
          * The cost of a way is one number, so that the least of all is BEST: orders without a machine,
          * then miles, then substitutes, then the machines as digits (of 91, none as 90) by orders as
@@ -1313,7 +1313,7 @@ public final class HireYard {
             for (int i = 0; i < listed; i++) {
                 Order o = list[i];
                 int number = (int) (digits / DIGIT[i] % 91);
-                if (o != null && number < machines.length && machines[number] != null) {
+                if (o != null && number >= 0 && number < machines.length && machines[number] != null) {
                     o.promise(machines[number]);
                     miles += roads.way(machines[number].town, o.town);
                     served++;
@@ -1483,7 +1483,7 @@ public final class HireYard {
      * numbers as they are, NAMES and operators as numbers below 0.
      */
     private static final class Tape {
-        private static final int MOST_BYTES = 200, MOST_OPEN = 8, MOST_DIGITS = 6;
+        private static final int MOST_BYTES = 200, MOST_OPEN = 8, MOST_DIGITS = 6, MOST_DAYS = 999999;
         /** By their places NAMES first, then the other words. */
         private static final String WORDS =
             "days all weeks rest rate hours over rain broken fuel harm worth own sub from up to least most ";
@@ -1652,7 +1652,7 @@ public final class HireYard {
         }
 
         private void step() {
-            int least = 0, most = Integer.MAX_VALUE;
+            int least = 0, most = MOST_DAYS;
             if (take(FROM)) {
                 least = number();
                 if (take(TO)) {

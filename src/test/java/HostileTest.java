@@ -4,8 +4,11 @@ public final class HostileTest {
     private static final int[] EDGES = {-1, 0, 1, 2, 3, 5, 14, 15, 16, 59, 60, 89, 90, 99, 100, 199, 200, 240, 255, 256,
         300, 999, 1000, 9999, 23999, 65535, 99999, 100000, Integer.MAX_VALUE, Integer.MIN_VALUE};
 
+    private static final String[] TEXTS = {"days*rate", "from 3 up weeks*300+least(rest*rate,300);all*50", "harm+fuel*2",
+        "rain*10+broken*most(1,worth/over)", "1+", "from 1", "((((((((hours))))))))/sub-own"};
     private final Lots lots;
-    private final HireYard yard = new HireYard();
+    private final Scene scene = new Scene();
+    private final HireYard yard = scene.yard;
 
     private HostileTest(int seed) {
         lots = new Lots(seed);
@@ -35,6 +38,9 @@ public final class HostileTest {
             found();
         }
         for (int i = 0; i < 1500; i++) {
+            if (lots.below(4) == 0) {
+                goOn();
+            }
             int call = lots.below(49);
             int[] x = {likely(), likely(), likely(), likely(), likely()};
             if (lots.below(4) > 0) {
@@ -62,6 +68,32 @@ public final class HostileTest {
         for (int i = 0; i < 12; i++) {
             yard.machine(lots.below(3), lots.below(4), lots.below(50));
             yard.instead(lots.below(3), lots.below(3), 1);
+        }
+    }
+
+    /** One step of a common course, so that the other calls meet hires, bills and loads. */
+    private void goOn() {
+        int order = lots.below(Math.max(1, yard.count(4)));
+        switch (lots.below(6)) {
+            case 0:
+                yard.order(lots.below(6), lots.below(3), yard.count(5) + 5 + lots.below(20), 1 + lots.below(9), 2);
+                return;
+            case 1:
+                scene.promise(order, order / 2, yard.count(4) - 1);
+                return;
+            case 2:
+                yard.look(lots.below(20), 1);
+                return;
+            case 3:
+                yard.fetch(order, lots.below(4));
+                return;
+            case 4:
+                scene.terms(lots.below(2), lots.below(30), TEXTS[lots.below(TEXTS.length)]);
+                return;
+            default:
+                for (int i = 0; i < yard.count(4); i++) {
+                    yard.send(i);
+                }
         }
     }
 
