@@ -855,7 +855,7 @@ public final class HireYard {
         /** The latest reading at an hour or ahead of it; -1: none. */
         int latestUpTo(int hour) {
             int low = 0, high = size;
-            while (low < high) {
+            for (int halvings = 0; halvings < 32 && low < high; halvings++) {
                 int middle = (low + high) >>> 1;
                 if (hours[middle] <= hour) {
                     low = middle + 1;

@@ -7,6 +7,9 @@ public final class BestAgainstAllWaysTest {
     private final HireYard yard = new HireYard();
     private int[] listed;
     private int machines;
+    /** By order as listed and machine: miles, or -1 if it may not go; whether it is a substitute. */
+    private int[][] ride;
+    private int[][] sub;
     private int[] way;
     private long[] bestCost;
     private int[] bestWay;
@@ -59,6 +62,7 @@ public final class BestAgainstAllWaysTest {
     private void best(int seed) {
         way = new int[listed.length];
         bestCost = null;
+        ask();
         search(0, new long[] {0, 0, 0});
         int served = 0;
         for (int machine : bestWay) {
@@ -72,6 +76,20 @@ public final class BestAgainstAllWaysTest {
         }
     }
 
+    /** All that the search has to know, asked once: an object is good for 512 calls. */
+    private void ask() {
+        ride = new int[listed.length][machines];
+        sub = new int[listed.length][machines];
+        for (int i = 0; i < listed.length; i++) {
+            int type = yard.ofOrder(listed[i], 1), to = customerTown(yard.ofOrder(listed[i], 0));
+            for (int m = 0; m < machines; m++) {
+                boolean may = yard.why(m, listed[i]) == 0;
+                ride[i][m] = may ? yard.far(yard.ofMachine(m, 3), to) : -1;
+                sub[i][m] = yard.ofMachine(m, 0) == type ? 0 : 1;
+            }
+        }
+    }
+
     /** Tries all ways, the first ones first; costs: without a machine, miles, substitutes. */
     private void search(int i, long[] cost) {
         if (i == listed.length) {
@@ -82,11 +100,9 @@ public final class BestAgainstAllWaysTest {
             return;
         }
         for (int m = 0; m < machines; m++) {
-            if (!taken(m, i) && yard.why(m, listed[i]) == 0) {
-                int town = yard.ofMachine(m, 3), to = customerTown(yard.ofOrder(listed[i], 0));
-                int sub = yard.ofMachine(m, 0) == yard.ofOrder(listed[i], 1) ? 0 : 1;
+            if (!taken(m, i) && ride[i][m] >= 0) {
                 way[i] = m;
-                search(i + 1, new long[] {cost[0], cost[1] + yard.far(town, to), cost[2] + sub});
+                search(i + 1, new long[] {cost[0], cost[1] + ride[i][m], cost[2] + sub[i][m]});
             }
         }
         way[i] = NONE;
@@ -144,6 +160,7 @@ public final class BestAgainstAllWaysTest {
         java.util.Arrays.sort(sorted);
         row = null;
         least = Integer.MAX_VALUE;
+        askWays(stops, count);
         rows(sorted, new int[count], 0);
         if (got == Scene.BIG) {
             CHECK.is("25: few are never BIG, seed " + seed, count > 3 ? 1 : 0, 1);
@@ -158,16 +175,32 @@ public final class BestAgainstAllWaysTest {
 
     private int[] row;
     private int least;
+    /** Of each stop the TOWN where it is wanted; between all towns the miles. */
+    private final int[] goals = new int[NONE];
+    private int[][] far;
+    private int home;
+
+    private void askWays(int[] stops, int count) {
+        home = yard.ofMachine(stops[0], 3);
+        for (int i = 0; i < count; i++) {
+            goals[stops[i]] = customerTown(yard.ofOrder(yard.ofMachine(stops[i], 7), 0));
+        }
+        far = new int[yard.count(0)][yard.count(0)];
+        for (int a = 0; a < far.length; a++) {
+            for (int b = 0; b < far.length; b++) {
+                far[a][b] = yard.far(a, b);
+            }
+        }
+    }
 
     private void rows(int[] sorted, int[] tried, int n) {
         if (n == sorted.length) {
-            int home = yard.ofMachine(tried[0], 3), at = home, sum = 0;
+            int at = home, sum = 0;
             for (int machine : tried) {
-                int to = customerTown(yard.ofOrder(yard.ofMachine(machine, 7), 0));
-                sum += yard.far(at, to);
-                at = to;
+                sum += far[at][goals[machine]];
+                at = goals[machine];
             }
-            sum += yard.far(at, home);
+            sum += far[at][home];
             if (sum < least) {
                 least = sum;
                 row = tried.clone();
