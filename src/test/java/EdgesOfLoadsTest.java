@@ -481,6 +481,13 @@ public final class EdgesOfLoadsTest {
         CHECK.is("big", big.round(), Scene.BIG);
         CHECK.is("none then", big.round(), Scene.NOT);
         CHECK.is("one may be told again", big.stop(2), 1);
+        CHECK.is("small", big.round(), 0);
+        big.stop(0);
+        big.stop(1);
+        big.stop(2);
+        CHECK.is("big again", big.round(), Scene.BIG);
+        CHECK.is("27: the latest that found one", big.stopped(0), 2);
+        CHECK.is("27: one stop", big.stopped(1), Scene.BAD);
         HireYard out = stops(1000, 1000).yard;
         out.send(0);
         out.off(1);

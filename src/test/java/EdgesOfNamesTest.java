@@ -354,6 +354,14 @@ public final class EdgesOfNamesTest {
         back.yard.fetch(1, 0);
         CHECK.is("sent anew, and back", back.yard.looked(0, 1, 4), Scene.NOT);
         CHECK.is("of the later one", back.yard.looked(1, 1, 4), 1);
+        Scene stolen = Scene.hire();
+        stolen.yard.fetch(0, 0);
+        stolen.yard.order(0, 0, 5, 1, 1);
+        stolen.promise(1);
+        stolen.yard.send(1);
+        stolen.yard.gone(0, 4);
+        CHECK.is("the later one waits again", stolen.yard.ofOrder(1, 5), 0);
+        CHECK.is("sent anew nevertheless", stolen.yard.looked(0, 1, 4), Scene.NOT);
     }
 
     /** "DAMAGE: marks IN that were not OUT, if both were told; else none". */

@@ -70,8 +70,9 @@ public final class EdgesOfTextsTest {
     /** Promise 35: "Twenty bytes more come to THE TAPE, the highest of each number first". */
     private static void highestByteFirst() {
         HireYard y = Scene.hire().yard;
-        y.feed('1' << 24 | '+' << 16 | '2' << 8 | '+', '4' << 24 | '+' << 16 | '8' << 8 | '-', '1' << 24 | '6' << 16 | '+' << 8 | '3',
-            '2' << 24 | '*' << 16 | '(' << 8 | '6', '4' << 24 | '/' << 16 | '4' << 8 | ')');
+        y.feed('1' << 24 | '+' << 16 | '2' << 8 | '+', '4' << 24 | '+' << 16 | '8' << 8 | '-',
+            '1' << 24 | '6' << 16 | '+' << 8 | '3', '2' << 24 | '*' << 16 | '(' << 8 | '6',
+            '4' << 24 | '/' << 16 | '4' << 8 | ')');
         CHECK.is("all twenty", y.terms(0, 0), 0);
         CHECK.is("in their order", y.gives(0, 0, 0), 511);
         for (int byteAt = 0; byteAt < 20; byteAt++) {

@@ -430,14 +430,18 @@ public final class RefusedTest {
         refused("42: BAD ahead of NOT, litres", y -> y.fuel(1, 1, 1000), BAD);
     }
 
+    private static void expectBad(String what, int times, ToIntFunction<HireYard> call, ToIntFunction<HireYard> bad) {
+        Twins.refused(CHECK, what + ": BAD ahead of FULL", often(times, call), bad, BAD);
+    }
+
     private static void badAheadOfFull() {
-        Twins.refused(CHECK, "2: BAD ahead of FULL", often(8, y -> y.town(1)), y -> y.town(2), BAD);
-        Twins.refused(CHECK, "7: BAD ahead of FULL", often(12, y -> y.type(1000, 1, 0, 0)), y -> y.type(1000, 1, 8, 0), BAD);
-        Twins.refused(CHECK, "10: BAD ahead of FULL", often(80, y -> y.machine(0, 0, 7)), y -> y.machine(0, 2, 7), BAD);
-        Twins.refused(CHECK, "11: BAD ahead of FULL", often(3, y -> y.link(0, 9, 9)), y -> y.link(0, 10, 9), BAD);
-        Twins.refused(CHECK, "17: BAD ahead of FULL", often(298, y -> y.track(6, 2)), y -> y.track(6, 4), BAD);
-        Twins.refused(CHECK, "19: BAD ahead of FULL", often(26, y -> y.customer(0, 1)), y -> y.customer(0, 256), BAD);
-        Twins.refused(CHECK, "20: BAD ahead of FULL", often(92, y -> y.order(0, 0, 90, 1, 1)), y -> y.order(0, 0, 31, 1, 1), BAD);
+        expectBad("2", 8, y -> y.town(1), y -> y.town(2));
+        expectBad("7", 12, y -> y.type(1000, 1, 0, 0), y -> y.type(1000, 1, 8, 0));
+        expectBad("10", 80, y -> y.machine(0, 0, 7), y -> y.machine(0, 2, 7));
+        expectBad("11", 3, y -> y.link(0, 9, 9), y -> y.link(0, 10, 9));
+        expectBad("17", 298, y -> y.track(6, 2), y -> y.track(6, 4));
+        expectBad("19", 26, y -> y.customer(0, 1), y -> y.customer(0, 256));
+        expectBad("20", 92, y -> y.order(0, 0, 90, 1, 1), y -> y.order(0, 0, 31, 1, 1));
         Twins.refused(CHECK, "22: BAD ahead of FULL", RefusedTest::fullList, y -> y.list(13), BAD);
         Twins.refused(CHECK, "26: BAD ahead of FULL", RefusedTest::fullStops, y -> y.stop(14), BAD);
         Twins.refused(CHECK, "37: BAD ahead of FULL, use", RefusedTest::fullTerms, y -> y.terms(2, 0), BAD);
